@@ -12,6 +12,8 @@ public final class KeyedCells {
     private static final int FREE = 0;
     private static final int KEYED = 1;
     private static final int GONE = 2;
+
+    /** The cell of an int that a look did not find. */
     private static final int NOWHERE = -1;
 
     private final int runLimit;
@@ -191,16 +193,18 @@ public final class KeyedCells {
     }
 
     private static final class Generator {
+        private static final int SEED_STEP = 0x9E3779B9;
+
         private int a;
         private int b;
         private int c;
         private int d;
 
         private Generator(int seed) {
-            a = mixed(seed + 0x9E3779B9);
-            b = mixed(seed + 2 * 0x9E3779B9);
-            c = mixed(seed + 3 * 0x9E3779B9);
-            d = mixed(seed + 4 * 0x9E3779B9);
+            a = mixed(seed + SEED_STEP);
+            b = mixed(seed + 2 * SEED_STEP);
+            c = mixed(seed + 3 * SEED_STEP);
+            d = mixed(seed + 4 * SEED_STEP);
             if ((a | b | c | d) == 0) {
                 a = 1;
             }
@@ -316,7 +320,7 @@ public final class KeyedCells {
             }
         }
 
-        /** Answers the run; the bound on bound ints leaves a free cell always. */
+        /** Answers the run; as at most three quarters are bound, there is always a free cell. */
         private int place(int key, int value) {
             int cell = homeOf(key);
             int run = 1;
