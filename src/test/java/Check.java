@@ -1,10 +1,16 @@
 /** Counts and prints the answers that are not as due. */
 final class Check {
     private static final int MOST_PRINTED = 40;
+    private static String told = "";
     private static int made = 0;
     private static int wrong = 0;
 
     private Check() {
+    }
+
+    /** What follows tests this sentence of the document; it is printed with each wrong answer. */
+    static void sentence(String words) {
+        told = "\"" + words + "\": ";
     }
 
     static void due(String call, long got, long want) {
@@ -12,7 +18,7 @@ final class Check {
         if (got != want) {
             wrong++;
             if (wrong <= MOST_PRINTED) {
-                System.out.println(call + " answered " + got + ", due is " + want);
+                System.out.println(told + call + " answered " + got + ", due is " + want);
             }
         }
     }

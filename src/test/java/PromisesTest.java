@@ -2,52 +2,8 @@ import java.util.List;
 import java.util.TreeSet;
 
 /** For each promise of the document: ordinary inputs, the edges that it names, wrong inputs. */
-public final class PromisesTest {
-    private static final int LOW = Integer.MIN_VALUE;
-    private static final int HIGH = Integer.MAX_VALUE;
-    private static final int SEED = 7;
-    /** Homes in objects with SEED and 8 cells. */
-    private static final Homes OF8 = new Homes(SEED, 3);
-    private static final Homes OF16 = new Homes(SEED, 4);
-
+public final class PromisesTest extends Fixture {
     private PromisesTest() {
-    }
-
-    private static void due(String call, long got, long want) {
-        Check.due(call, got, want);
-    }
-
-    private static void due(String call, boolean got, boolean want) {
-        Check.due(call, got, want);
-    }
-
-    /** One character a cell: what filled() answers. */
-    private static String cellsOf(KeyedCells x, boolean old, int cells) {
-        StringBuilder text = new StringBuilder();
-        for (int i = 0; i < cells; i++) {
-            text.append(x.filled(old, i));
-        }
-        return text.toString();
-    }
-
-    private static void dueCells(String when, KeyedCells x, boolean old, String want) {
-        String got = cellsOf(x, old, want.length());
-        due(when + ": cells " + got + " for " + want, got.equals(want), true);
-    }
-
-    /** Puts ints with these homes into an object with SEED and 8 cells; values are 10, 11 .. */
-    private static int[] putByHomes(KeyedCells x, int... homes) {
-        int[] keys = new int[homes.length];
-        int[] used = new int[8];
-        for (int i = 0; i < homes.length; i++) {
-            keys[i] = OF8.key(homes[i], used[homes[i]]++);
-            due("put by home " + homes[i], x.put(keys[i], 10 + i), 0);
-        }
-        return keys;
-    }
-
-    private static KeyedCells wide() {
-        return new KeyedCells(SEED, 3, 64);
     }
 
     // Promise 1
