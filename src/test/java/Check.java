@@ -1,23 +1,26 @@
 /** Counts and prints the answers that are not as due. */
 final class Check {
-    private static final int MOST_PRINTED = 40;
+    private static final int MOST_PRINTED = 10;
     private static String told = "";
     private static int made = 0;
     private static int wrong = 0;
+    private static int printed = 0;
 
     private Check() {
     }
 
-    /** What follows tests this sentence of the document; it is printed with each wrong answer. */
+    /** What follows tests this sentence of the document; it is printed with the first wrong answers. */
     static void sentence(String words) {
         told = "\"" + words + "\": ";
+        printed = 0;
     }
 
     static void due(String call, long got, long want) {
         made++;
         if (got != want) {
             wrong++;
-            if (wrong <= MOST_PRINTED) {
+            if (printed < MOST_PRINTED) {
+                printed++;
                 System.out.println(told + call + " answered " + got + ", due is " + want);
             }
         }

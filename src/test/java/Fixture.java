@@ -57,6 +57,15 @@ class Fixture {
         return keys;
     }
 
+    /** For an object that was not rekeyed: so many ints move over to its second table. */
+    static void rekeyAndMoveAll(KeyedCells x, int count) {
+        due("rekey", x.rekey(), 0);
+        for (int left = count - 4; left > -4; left -= 4) {
+            due("migrateStep", x.migrateStep(), Math.max(0, left));
+        }
+        due("rekeys", x.rekeys(), 1);
+    }
+
     /** Eight cells, and a limit that no run can reach. */
     static KeyedCells wide() {
         return new KeyedCells(SEED, 3, 64);

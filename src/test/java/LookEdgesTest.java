@@ -86,6 +86,35 @@ public final class LookEdgesTest extends Fixture {
         due("size", x.size(), 6);
     }
 
+    /** The limit keeps the runs of puts short, but those of steps can be as long as many are bound. */
+    private static void longestLooksInEverySize() {
+        Check.sentence("until one has it, or is free, or all were (every C)");
+        for (int bits = 3; bits <= 7; bits++) {
+            Homes homes = new Homes(SEED, bits);
+            int cells = 1 << bits;
+            int[] keys = new int[cells / 4 * 3];
+            KeyedCells x = new KeyedCells(SEED, bits, 64);
+            for (int i = 0; i < keys.length; i++) {
+                keys[i] = homes.key(-1, cells - 2, i);
+                x.put(keys[i], i + 1);
+            }
+            int absent = homes.key(-1, cells - 2, keys.length);
+            rekeyAndMoveAll(x, keys.length);
+            due("bits " + bits + ", the end of the run", x.filled(false, keys.length - 3), 1);
+            dueValues("bits " + bits + ", new table", x, keys, absent);
+            x.rekey();
+            dueValues("bits " + bits + ", old table", x, keys, absent);
+        }
+    }
+
+    private static void dueValues(String when, KeyedCells x, int[] keys, int absent) {
+        for (int i = 0; i < keys.length; i++) {
+            due(when + ", get of " + i, x.get(keys[i]), i + 1);
+        }
+        due(when + ", has none", x.has(absent), false);
+        due(when + ", remove none", x.remove(absent), false);
+    }
+
     private static void looksPassGoneCells() {
         Check.sentence("a cell is free, has a key, or is gone: a gone one ends no look");
         KeyedCells x = wide();
@@ -198,6 +227,7 @@ public final class LookEdgesTest extends Fixture {
         looksGoRoundInEverySize();
         looksEndAtAFreeCell();
         longestLooks();
+        longestLooksInEverySize();
         looksPassGoneCells();
         goneCellsHaveNothing();
         onlyTheOldTableHasGoneCells();

@@ -60,6 +60,7 @@ public final class PutEdgesTest extends Fixture {
         due("limit " + limit + ", put over it", x.put(homes.key(100, kept), 1), 0);
         due("limit " + limit + ", rekeys over it", x.rekeys(), 1);
         due("limit " + limit + ", probeMax over it", x.probeMax(), 0);
+        due("limit " + limit + ", get over it", x.get(homes.key(100, kept)), 1);
     }
 
     private static void limitTooSmall() {

@@ -113,6 +113,30 @@ public final class TakeEdgesTest extends Fixture {
         }
     }
 
+    /** All that may be bound stand in one run: each of them moves up by one cell. */
+    private static void longestRunInEverySize() {
+        Check.sentence("for each cell behind it in turn, until one is free (every C)");
+        for (int bits = 3; bits <= 7; bits++) {
+            Homes homes = new Homes(SEED, bits);
+            int cells = 1 << bits;
+            int most = cells / 4 * 3;
+            KeyedCells x = new KeyedCells(SEED, bits, 64);
+            for (int i = 0; i < most; i++) {
+                x.put(homes.key(-1, cells - 2, i), i);
+            }
+            rekeyAndMoveAll(x, most);
+            int[] keys = new int[most];
+            for (int i = 0; i < most; i++) {
+                keys[i] = x.nth((cells - 2 + i) % cells);
+            }
+            due("bits " + bits + ", remove", x.remove(keys[0]), true);
+            for (int i = 1; i < most; i++) {
+                due("bits " + bits + ", rank " + i, x.nth((cells - 3 + i) % cells), keys[i]);
+            }
+            due("bits " + bits + ", the last cell", x.filled(false, most - 3), 0);
+        }
+    }
+
     private static void outOfTheOldTable() {
         Check.sentence("Out of the old one: its cell is gone");
         KeyedCells x = wide();
@@ -152,6 +176,7 @@ public final class TakeEdgesTest extends Fixture {
         theFreeCellIsTheLastOneLeft();
         goingRound();
         goingRoundInEverySize();
+        longestRunInEverySize();
         outOfTheOldTable();
         outOfTheNewTableWhileEntriesMove();
         Check.end();
